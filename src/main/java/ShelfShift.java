@@ -572,7 +572,8 @@ public final class ShelfShift {
                 return 0;
             }
             need[chosen]++;
-            lost[chosen] = NONE;
+            // Less than any part can lose: it does not get another one.
+            lost[chosen] = -1;
             return 1;
         }
 
@@ -585,23 +586,11 @@ public final class ShelfShift {
         }
 
         int loadOn(int s) {
-            int sum = 0;
-            for (int b = 0; b < count; b++) {
-                if (shelf[b] == s) {
-                    sum += width[b];
-                }
-            }
-            return sum;
+            return sumWith(shelf, s, width);
         }
 
         int rateOn(int s) {
-            int sum = 0;
-            for (int b = 0; b < count; b++) {
-                if (shelf[b] == s) {
-                    sum += need[b];
-                }
-            }
-            return sum;
+            return sumWith(shelf, s, need);
         }
 
         int firstOn(int s) {
@@ -620,6 +609,10 @@ public final class ShelfShift {
             return countWith(group, g);
         }
 
+        int widthsIn(int g) {
+            return sumWith(group, g, width);
+        }
+
         private int firstWith(int[] row, int value) {
             for (int b = 0; b < count; b++) {
                 if (row[b] == value) {
@@ -627,6 +620,16 @@ public final class ShelfShift {
                 }
             }
             return NONE;
+        }
+
+        private int sumWith(int[] row, int value, int[] amounts) {
+            int sum = 0;
+            for (int b = 0; b < count; b++) {
+                if (row[b] == value) {
+                    sum += amounts[b];
+                }
+            }
+            return sum;
         }
 
         private int countWith(int[] row, int value) {
@@ -637,16 +640,6 @@ public final class ShelfShift {
                 }
             }
             return found;
-        }
-
-        int widthsIn(int g) {
-            int sum = 0;
-            for (int b = 0; b < count; b++) {
-                if (group[b] == g) {
-                    sum += width[b];
-                }
-            }
-            return sum;
         }
 
         /** On how many shelves a group stands; shelves never go back, so each change is a new one. */
