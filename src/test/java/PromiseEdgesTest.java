@@ -464,6 +464,15 @@ public final class PromiseEdgesTest {
         Script.stays(ONE, "best false = 10", "best true = 10");
     }
 
+    /** A book of 1 lasts as long as it has room: every greatest Y that growth can leave. */
+    @Says(at = "Promise 16", value = "The greatest Y for which there are CUTS")
+    private static void everyBestYear() {
+        for (int length = 10; length <= 200; length++) {
+            int years = length - 1;
+            run("shelf " + length + " 0; group 1; book 0 1; best true = " + years + "; best false = " + years);
+        }
+    }
+
     @Says(at = "Promise 16", value = "(open) so that no SPARE SHELF has BOOKS.")
     private static void bestWithoutSpares() {
         run(EIGHTS, "best true = 4; best false = 12; turn 2 0; best true = 12; turn 0 1; best true = 4");
@@ -729,6 +738,16 @@ public final class PromiseEdgesTest {
         // The LIMIT that is set is no matter.
         run(RIGHT, "limit 400; enough 2 = 60; limit 40; enough 2 = 60");
         Script.stays(BOTH, "enough 1 = 40", "enough 0 = NONE");
+    }
+
+    /** Moves of every sum: a day is enough for them by that very LIMIT, by none that is less. */
+    @Says(at = "Promise 25", value = "The least LIMIT (40 to 400)")
+    private static void enoughForOneDay() {
+        for (int sum = 1; sum <= 400; sum++) {
+            String books = sum / 40 + "x book 0 40" + (sum % 40 > 0 ? "; book 0 " + sum % 40 : "");
+            run("shelf 200 0; shelf 200 0; group 0", books, "shelf 200 0; shelf 200 0; turn 0..1 2; plan 0",
+                "left 1 = " + sum + "; enough 1 = " + Math.max(sum, 40));
+        }
     }
 
     @Says(at = "Promise 25", value = "NONE: there is no PLAN")
